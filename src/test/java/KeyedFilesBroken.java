@@ -74,6 +74,13 @@ public final class KeyedFilesBroken {
         due("key " + key + " has an entry twice", x.whole(), false);
     }
 
+    private static void doubleRecord() throws ReflectiveOperationException {
+        KeyedFiles x = sound();
+        List<Object> entries = entries(x, 1);
+        put(entries.get(1), "stored", inside(entries.get(0), "stored"));
+        due("a record has two entries under a key, and another none", x.whole(), false);
+    }
+
     private static void changeBytes() throws ReflectiveOperationException {
         KeyedFiles x = sound();
         Object stored = inside(entries(x, 0).get(0), "stored");
@@ -109,6 +116,7 @@ public final class KeyedFilesBroken {
             loseEntry(key);
             doubleEntry(key);
         }
+        doubleRecord();
         changeBytes();
         loseRecord();
         leaveOutMore();
