@@ -491,7 +491,7 @@ public final class KeyedFilesPromises {
         dueStart(x, 0, EQUAL, 0x0111, 2, -1, 0);
         dueStart(x, 0, EQUAL, 0x0105, 1, -1, 0);
         dueStart(x, 0, EQUAL, 255, 1, 255, 0);
-        dueStart(x, 0, EQUAL, -1, 1, -1, 0);
+        dueStart(x, 0, EQUAL, 256 + 1, 1, -1, 0);
         dueStart(x, 0, GREATER, 1, 1, 2, 3);
         dueStart(x, 0, GREATER, 0, 1, 1, 5);
         dueStart(x, 0, GREATER, 255, 1, -1, 0);
