@@ -16,6 +16,7 @@ public final class KeyedFilesAgainstModel {
     private static final class Rec {
         long bytes;
         boolean gone;
+        long goneAt;
         final long[] came = new long[6];
     }
 
@@ -42,6 +43,8 @@ public final class KeyedFilesAgainstModel {
         boolean ended;
         /** Ahead of all: null. Else {field, arrival, 1 for at the entry or 0 for behind it}. */
         long[] place;
+        /** The record of the entry that it is at or behind. */
+        Rec stood;
         Rec last;
         long value;
         Long written;
@@ -211,6 +214,7 @@ public final class KeyedFilesAgainstModel {
             look.last = rec;
             look.value = rec.bytes;
             look.place = new long[] {field, rec.came[key], 0};
+            look.stood = rec;
             look.lost = false;
             look.ended = false;
             int j = i + step;
@@ -273,6 +277,7 @@ public final class KeyedFilesAgainstModel {
             }
             look.ended = false;
             look.place = new long[] {keys.get(key).field(best.bytes), best.came[key], 1};
+            look.stood = best;
             return 0;
         }
 
@@ -377,6 +382,7 @@ public final class KeyedFilesAgainstModel {
                 return look.access == 0 ? 43 : 23;
             }
             rec.gone = true;
+            rec.goneAt = clock;
             records.remove(rec);
             return 0;
         }
@@ -395,6 +401,40 @@ public final class KeyedFilesAgainstModel {
 
         int count(int key) {
             return noKey(key) ? -1 : entries(key).size();
+        }
+
+        /**
+         * Whether the document leaves open what next is: the entry that the view stood at has moved
+         * (is it there still?), or one with the same field came when it was gone (is that behind it?).
+         */
+        boolean isNextOpen(Look look) {
+            if (look.place == null || look.lost || look.ended) {
+                return false;
+            }
+            Rec stood = look.stood;
+            int key = look.reference;
+            if (stood.came[key] != look.place[1]) {
+                return true;
+            }
+            for (Rec rec : entries(key)) {
+                boolean equal = keys.get(key).field(rec.bytes) == look.place[0];
+                if (stood.gone && equal && rec.came[key] > stood.goneAt) {
+                    return true;
+                }
+            }
+            return false;
+        }
+
+        /**
+         * Whether the document leaves open if the record read last is there still: it was rewritten,
+         * or it was removed and another one has its prime field now.
+         */
+        boolean isLastOpen(Look look) {
+            if (look.last == null || look.access != 0) {
+                return false;
+            }
+            boolean isBack = byPrime(keys.get(0).field(look.value)) != null;
+            return look.last.gone ? isBack : look.last.bytes != look.value;
         }
     }
 
@@ -530,7 +570,11 @@ public final class KeyedFilesAgainstModel {
 
         boolean change(int view) {
             long record = aRecord();
-            switch (random.nextInt(4)) {
+            int kind = random.nextInt(4);
+            if (kind < 2 && !model.noView(view) && model.isLastOpen(model.views.get(view))) {
+                return true;
+            }
+            switch (kind) {
                 case 0: {
                     long k = aField(0, model.noKey(0) ? 1 : model.keys.get(0).size);
                     return check("remove(" + view + ", " + k + ")", file.remove(view, k), model.remove(view, k));
@@ -590,6 +634,9 @@ public final class KeyedFilesAgainstModel {
             }
             if (kind < 16) {
                 boolean back = random.nextInt(3) == 0;
+                if (!model.noView(view) && model.isNextOpen(model.views.get(view))) {
+                    return true;
+                }
                 return check("next(" + view + ", " + back + ")", file.next(view, back), model.next(view, back));
             }
             return lookOn(view);

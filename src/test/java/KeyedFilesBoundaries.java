@@ -1680,16 +1680,25 @@ public final class KeyedFilesBoundaries {
         due("the end", x.next(0, BACK), 46);
     }
 
-    @Case(promise = 11, says = "else the one behind (ahead of) where it was (its field has changed)")
-    private static void atAnEntryThatMoved() {
+    /** As filled(), with entries under key 2: 1 (10), 2 (20), 3 (40). */
+    private static KeyedFiles filledUnderKey2() {
         KeyedFiles x = filled();
-        due("start at the first 7", x.start(0, 1, EQUAL, 7, 1), 0);
-        due("it moves behind all", x.rewrite(0, bytes(10, 9)), 0);
-        dueNext(x, 0, ON, 2, 20);
-        due("start at the first 7", x.start(0, 1, EQUAL, 7, 1), 0);
-        due("it moves ahead of all", x.rewrite(0, bytes(20, 1)), 0);
-        dueNext(x, 0, BACK, 0, 30);
-        dueNext(x, 0, BACK, 0, 20);
+        due("an entry", x.rewrite(0, bytes(10, 7, 1)), 0);
+        due("an entry", x.rewrite(0, bytes(20, 7, 2)), 0);
+        due("an entry", x.rewrite(0, bytes(40, 7, 3)), 0);
+        return x;
+    }
+
+    @Case(promise = 11, says = "else the one behind (ahead of) where it was (its field is the told value now)")
+    private static void atAnEntryThatIsLeftOutNow() {
+        KeyedFiles x = filledUnderKey2();
+        due("start", x.start(0, 2, EQUAL, 2, 1), 0);
+        due("left out", x.rewrite(0, bytes(20, 7, 0)), 0);
+        dueNext(x, 0, ON, 0, 40);
+        KeyedFiles y = filledUnderKey2();
+        due("start", y.start(0, 2, EQUAL, 2, 1), 0);
+        due("left out", y.rewrite(0, bytes(20, 7, 0)), 0);
+        dueNext(y, 0, BACK, 0, 10);
     }
 
     @Case(promise = 11, says = "else the one behind (ahead of) where it was (among equal ones)")
@@ -1716,7 +1725,7 @@ public final class KeyedFilesBoundaries {
         dueNext(x, 0, ON, 0, 40);
     }
 
-    @Case(promise = 11, says = "The next entry (what it stood behind is gone, or moved)")
+    @Case(promise = 11, says = "The next entry (what it stood behind is gone)")
     private static void behindAnEntryThatIsGone() {
         KeyedFiles x = filled();
         due("read", x.read(0, 0, 20), 0);
@@ -1726,13 +1735,11 @@ public final class KeyedFilesBoundaries {
         dueNext(x, 0, BACK, 0, 10);
         due("remove", x.remove(0, 10), 0);
         due("none ahead", x.next(0, BACK), 10);
-        KeyedFiles y = filled();
-        due("read the first 7", y.read(0, 1, 7), 2);
-        due("it moves behind all", y.rewrite(0, bytes(10, 9)), 0);
-        dueNext(y, 0, ON, 2, 20);
+        KeyedFiles y = filledUnderKey2();
+        due("read", y.read(0, 2, 2), 0);
+        due("left out", y.rewrite(0, bytes(20, 7, 0)), 0);
         dueNext(y, 0, ON, 0, 40);
-        dueNext(y, 0, ON, 0, 10);
-        due("remove the last", y.remove(0, 10), 0);
+        due("remove the last", y.remove(0, 40), 0);
         due("none behind", y.next(0, ON), 10);
     }
 

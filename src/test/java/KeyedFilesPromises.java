@@ -604,28 +604,15 @@ public final class KeyedFilesPromises {
 
         KeyedFiles y = filled(1);
         due("start", y.start(0, 1, EQUAL, 7, 1), 0);
-        due("its entry moves off", y.rewrite(0, bytes(10, 9)), 0);
-        dueNext(y, 0, false, 2, 20);
+        due("its record is rewritten under another key", y.rewrite(0, bytes(10, 7, 4)), 0);
+        dueNext(y, 0, false, 2, 10);
+        due("one comes under that key", y.rewrite(0, bytes(20, 7, 5)), 0);
+        due("and a third one", y.rewrite(0, bytes(40, 7, 6)), 0);
+        due("start", y.start(0, 2, EQUAL, 5, 1), 0);
+        due("its entry is left out", y.rewrite(0, bytes(20, 7, 0)), 0);
+        dueNext(y, 0, true, 0, 10);
+        due("its entry is left out", y.rewrite(0, bytes(10, 7, 0)), 0);
         dueNext(y, 0, false, 0, 40);
-        dueNext(y, 0, false, 0, 10);
-        due("its entry moves ahead", y.rewrite(0, bytes(10, 1)), 0);
-        dueNext(y, 0, true, 2, 40);
-        due("its entry moves and comes again", y.rewrite(0, bytes(40, 8)), 0);
-        due("its entry moves and comes again", y.rewrite(0, bytes(40, 7)), 2);
-        dueNext(y, 0, false, 0, 40);
-        due("start", y.start(0, 1, EQUAL, 7, 1), 0);
-        due("its record is rewritten under another key", y.rewrite(0, bytes(20, 7, 4)), 0);
-        dueNext(y, 0, false, 2, 20);
-
-        KeyedFiles z = filled(1);
-        due("start", z.start(0, 0, EQUAL, 20, 1), 0);
-        due("remove", z.remove(0, 20), 0);
-        due("an equal one comes behind where it was", z.write(0, bytes(20, 1)), 0);
-        dueNext(z, 0, true, 0, 10);
-        dueNext(z, 0, false, 0, 20);
-        due("remove", z.remove(0, 20), 0);
-        due("an equal one comes behind where it was", z.write(0, bytes(20, 2)), 0);
-        dueNext(z, 0, false, 0, 20);
     }
 
     private static void rewriting() {
@@ -677,7 +664,7 @@ public final class KeyedFilesPromises {
         due("none read", x.rewrite(0, bytes(20, 5)), 43);
         dueOrder(x, 1, 30, 20, 10, 40);
         dueNext(x, 0, false, 0, 30);
-        due("by another view", x.rewrite(1, bytes(30, 1)), 0);
+        due("the very same by another view", x.rewrite(1, bytes(30, 5)), 0);
         due("it is there still", x.rewrite(0, bytes(30, 2, 1)), 0);
         dueNext(x, 0, false, 0, 40);
         due("21 goes ahead of 22", x.rewrite(0, bytes(41, 2, 1)), 21);
@@ -688,11 +675,6 @@ public final class KeyedFilesPromises {
         dueNext(x, 0, false, 0, 40);
         due("removed by another view", x.remove(1, 40), 0);
         due("it is gone", x.rewrite(0, bytes(40, 2)), 43);
-        due("start", x.start(0, 0, EQUAL, 10, 1), 0);
-        dueNext(x, 0, false, 0, 10);
-        due("removed by another view", x.remove(1, 10), 0);
-        due("another one comes", x.write(1, bytes(10, 7)), 0);
-        due("that is not the one read", x.rewrite(0, bytes(10, 8)), 43);
     }
 
     private static void removing() {
@@ -716,7 +698,7 @@ public final class KeyedFilesPromises {
         due("by another view", x.remove(1, 20), 0);
         due("it is gone", x.remove(0, 20), 43);
         dueNext(x, 0, false, 0, 30);
-        due("rewritten by another view", x.rewrite(1, bytes(30, 9)), 0);
+        due("the very same by another view", x.rewrite(1, bytes(30, 5)), 0);
         due("it is there still", x.remove(0, 0), 0);
         dueOrder(x, 0, 40);
         reopen(x, 0, BOTH, RANDOM);
